@@ -691,7 +691,7 @@ public final class LeanLane {
         }
 
         int houses() {
-            return Math.min(MOST_HOUSES, Math.max(0, length - 1) / HOUSE_LETTERS);
+            return Math.min(MOST_HOUSES, length / HOUSE_LETTERS);
         }
 
         /** What a house's letter says: 0 its kind, 1 its stones, 2 its strength. */
@@ -726,6 +726,7 @@ public final class LeanLane {
         private final int[] stones = new int[MOST_HOUSES];
         private final int[] strengths = new int[MOST_HOUSES];
         private final int[] deeds = new int[MOST_HOUSES];
+        /** Told and passed on only of houses that stand; what is left here of a fallen one is never read. */
         private final int[] loads = new int[MOST_HOUSES];
         private final int[] coming = new int[MOST_HOUSES];
         private int houses;
@@ -752,9 +753,7 @@ public final class LeanLane {
                 stones[house] = text.numberOf(house, 1);
                 strengths[house] = text.numberOf(house, 2);
                 deeds[house] = text.deedOf(house);
-                if (kinds[house] == UNBUILT) {
-                    loads[house] = 0;
-                } else {
+                if (kinds[house] != UNBUILT) {
                     standUp(house);
                 }
             }
@@ -838,7 +837,7 @@ public final class LeanLane {
         int passHour() {
             passLoads();
             int falling = fallingBits();
-            dropHouses(falling);
+            up &= ~falling;
             passed++;
             return Integer.bitCount(falling);
         }
@@ -851,9 +850,7 @@ public final class LeanLane {
 
         /** All that is given is reckoned from the loads of before, so the new ones wait in a row of their own. */
         private void passLoads() {
-            for (int house = 0; house < houses; house++) {
-                coming[house] = stands(house) ? stones[house] : 0;
-            }
+            System.arraycopy(stones, 0, coming, 0, houses);
             for (int house = 0; house < houses; house++) {
                 int support = supportOf(house);
                 if (stands(house) && stands(support)) {
@@ -874,15 +871,6 @@ public final class LeanLane {
                 }
             }
             return bits;
-        }
-
-        private void dropHouses(int bits) {
-            up &= ~bits;
-            for (int house = 0; house < houses; house++) {
-                if ((bits >> house & 1) == 1) {
-                    loads[house] = 0;
-                }
-            }
         }
 
         boolean staysCalm(int hours) {

@@ -15,6 +15,7 @@ public final class ChancesTest {
         seed();
         years();
         yearsLots();
+        yearsDeeds();
         nothingIsChanged();
         check.end();
     }
@@ -39,6 +40,10 @@ public final class ChancesTest {
         shareOf("both sides", three, 0, 3, 2);
         shareOf("both sides", three, 1, 0, 1);
         shareOf("both sides", three, 2, 3, 2);
+        LeanLane six = Check.made("AH292mH292mH292mH292mH292mH293m");
+        for (int house = 0; house < 6; house++) {
+            shareOf("each for itself", six, house, house < 5 ? 1 : 0, 1);
+        }
         LeanLane unbuilt = Check.made("AH292mH499m");
         shareOf("beside an unbuilt one", unbuilt, 0, 1, 1);
         shareOf("the unbuilt one", unbuilt, 1, 0, 1);
@@ -75,6 +80,7 @@ public final class ChancesTest {
         restsOf("AH209mH029m", 0, 1, 2, 10);
         // Three more would make it fall, which costs 5 and all of its ground.
         restsOf("AH293mH209m", 0, 1, 1, 1);
+        restsOf("AH041mH209m", 0, 1, 1, 1);
         // An unbuilt one has nothing but what it pays.
         restsOf("AH499mH209m", 0, 1, 1, 1);
         // Whatever one chooses, the other then chooses so that the first would rather have chosen otherwise.
@@ -222,7 +228,24 @@ public final class ChancesTest {
         check.due("r", yearsOf("AH203mH179mH202m", 22, 36, 36), 9);
         check.due("r, on a weak one", yearsOf("AH203mH179mH200m", 22, 36, 36), 3 + 2 + 1);
         check.due("m", yearsOf("AH200mH179mH200m", 23, 36, 36), 9);
+        check.due("one is taken, not two", yearsOf("AH081m", 12, 36), 1);
         check.due("taken from none", yearsOf("AH209m", 12, 36), 2);
+    }
+
+    /** A house leans on one ahead that is unbuilt or not there; only a deed of its own saves it. */
+    private static void yearsDeeds() {
+        for (int house = 0; house < 6; house++) {
+            StringBuilder text = new StringBuilder("A");
+            for (int i = 0; i < 6; i++) {
+                text.append(i == house ? "H009l" : i == house - 1 ? "H409m" : "H209m");
+            }
+            int stand = house == 0 ? 6 : 5;
+            for (int lot = 0; lot < 40; lot++) {
+                boolean saved = lot == 18 + 3 * house + 2 || lot == 18 + 3 * house + 1 && house < 5;
+                int due = saved ? 2 * stand : 2 * stand - 1 - (lot >= 36 ? 1 : 0);
+                check.due("lot " + lot + " for loose house " + house, yearsOf(text.toString(), lot, 36), due);
+            }
+        }
     }
 
     private static void nothingIsChanged() {

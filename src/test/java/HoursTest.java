@@ -261,6 +261,8 @@ public final class HoursTest {
         judged("AH049rH169rH352rH289lH435m", 4, 6108L, NONE);
         judged("AH049rH169rH352rH289lH435m", 2, 6108L, NONE);
         judged("AH049rH169rH352rH289lH435m", 2, 6109L, 1);
+        judged("AH089rH199rH359m", 2, 6113L, NONE);
+        judged("AH089rH199rH359m", 2, 6114L, 1);
         judged("AH049rH169rH352rH289lH435m", 4, 4004500430003001L, NONE);
         judged("AH049rH169rH352rH289lH435m", 4, 4004500430003000L, 3);
         judged("AH049rH169rH352rH289lH435m", 2, 40044004L, 1);

@@ -2,7 +2,7 @@ import java.util.Random;
 
 /** Long runs of calls, told by a fixed number, on the program and on the model: each answer is the same. */
 public final class ModelTest {
-    private static final int RUNS = 400;
+    private static final int RUNS = 600;
     private static final int CALLS = 512;
     private static final int[] WILD = {-1, 7, 10, 31, 64, 99, 1000, Integer.MIN_VALUE, Integer.MAX_VALUE, -9, 32, 1 << 30};
 
@@ -43,6 +43,8 @@ public final class ModelTest {
                 tellLane();
             } else if (kind == 1) {
                 tellFault();
+            } else if (kind == 2 && random.nextInt(4) == 0) {
+                heap(anyHouse());
             } else if (kind < 20) {
                 doAct();
             } else {
@@ -65,17 +67,25 @@ public final class ModelTest {
 
     private String house() {
         String kind = "" + "0012334".charAt(random.nextInt(7));
-        String stones = "" + random.nextInt(10);
         String strength = "" + (random.nextInt(4) == 0 ? random.nextInt(10) : 2 + random.nextInt(8));
-        return "H" + kind + stones + strength + "lrmrlm".charAt(random.nextInt(6));
+        return "H" + kind + random.nextInt(10) + strength + "lrm".charAt(random.nextInt(3));
+    }
+
+    /** One that has a hold at first, and is strong enough for little more than it bears. */
+    private String steadyHouse(int i, int houses) {
+        String kind = "" + "00112333".charAt(random.nextInt(8));
+        String deeds = (i > 0 ? "ll" : "") + (i < houses - 1 ? "rr" : "") + "m";
+        String strength = "" + (random.nextInt(3) == 0 ? 9 : 1 + random.nextInt(5));
+        return "H" + kind + random.nextInt(10) + strength + deeds.charAt(random.nextInt(deeds.length()));
     }
 
     private void tellLane() {
         held("wipe()", lane.wipe(), model.wipe());
         StringBuilder text = new StringBuilder("A");
-        int houses = random.nextInt(7);
+        boolean steady = random.nextInt(3) > 0;
+        int houses = random.nextInt(3) > 0 ? 2 + random.nextInt(5) : random.nextInt(7);
         for (int i = 0; i < houses; i++) {
-            text.append(house());
+            text.append(steady ? steadyHouse(i, houses) : house());
         }
         text.chars().forEach(this::letter);
         held("fault()", lane.fault(), model.fault());
@@ -115,6 +125,15 @@ public final class ModelTest {
 
     private int anyHouse() {
         return some(0, Math.max(0, model.count(1) - 1));
+    }
+
+    /** Stones up to the most, or little below. */
+    private void heap(int h) {
+        for (int i = 0; i < 11; i++) {
+            held("bring(" + h + ", 9)", lane.bring(h, 9), model.bring(h, 9));
+        }
+        int v = 1 + random.nextInt(9);
+        held("bring(" + h + ", " + v + ")", lane.bring(h, v), model.bring(h, v));
     }
 
     private void doAct() {
