@@ -3,7 +3,8 @@ import java.util.Random;
 /** Long runs of calls, told by a fixed number, on the program and on the model: each answer is the same. */
 public final class ModelTest {
     private static final int RUNS = 600;
-    private static final int CALLS = 512;
+    /** An object lasts for 512 calls; one step of a run makes 40 at most. */
+    private static final int CALLS = 512 - 40;
     private static final int[] WILD = {-1, 7, 10, 31, 64, 99, 1000, Integer.MIN_VALUE, Integer.MAX_VALUE, -9, 32, 1 << 30};
 
     private final Random random;
@@ -18,6 +19,7 @@ public final class ModelTest {
     }
 
     public static void main(String[] args) {
+        Check.watch("ModelTest");
         int failed = 0;
         for (int run = 0; run < RUNS && failed < 3; run++) {
             ModelTest test = new ModelTest(run);
