@@ -27,6 +27,7 @@ public final class ChancesEdgesTest {
         seed();
         seedWraps();
         yearsNumber();
+        yearsUpperBits();
         yearsLots();
         yearsIfItCanBe();
         yearsChangeTheSeedAlone();
@@ -154,12 +155,16 @@ public final class ChancesEdgesTest {
         rests(Check.made("A" + even + even), "all four", 0, 1, 4, 0);
         rests(Check.made("A" + even + holy), "one has as much either way", 0, 1, 2, 1);
         rests(Check.made("A" + holy + even), "the other has as much either way", 0, 1, 2, 10);
+        // With 3 more in 0, a stone of 3 more in 1 is too much, and both fall: 0 brings if 1 does not, 1 may if 0 does not.
+        rests(Check.made("AH201mH009l"), "one of them", 0, 1, 2, 1);
+        rests(Check.made("AH201mH009l"), "one of them, the other way round", 1, 0, 2, 1);
         check.words("NONE");
         rests(Check.made("AH442rH173mH340rH101rH015l"), "there is none", 3, 4, 0, NONE);
         check.words("5 more, if it stands");
         // 9 on 9 and 6 on 6: with 3 more it falls, and has nothing.
         rests(Check.made("AH293mH262m"), "both would fall", 0, 1, 1, 0);
         rests(Check.made("AH263mH262m"), "the other would fall", 0, 1, 1, 10);
+        rests(Check.made("AH211mH200m"), "with little ground", 0, 1, 1, 0);
         rests(Check.made("AH490mH490m"), "neither stands", 0, 1, 1, 0);
         rests(Check.made("AH409mH409mH409mH409m" + holy + holy), "the last ones", 4, 5, 1, 11);
     }
@@ -381,6 +386,19 @@ public final class ChancesEdgesTest {
         }
         lane.seed(seed);
         check.due("years of " + text + " by " + Arrays.toString(lots), lane.years(lots.length), want);
+    }
+
+    private static void yearsUpperBits() {
+        check.words("its upper 31 bits by 40, what is left");
+        // One on no strength: 0 and 1 bring a stone into it, 12 takes it, and 36 and more make it fall; all else leaves it.
+        for (long v = -40; v <= 40; v++) {
+            for (long seed : new long[] {v, v << 57, v * TIMES}) {
+                LeanLane lane = Check.made("AH210m");
+                lane.seed(seed);
+                int due = lot(next(seed)) >= 36 ? 0 : 1;
+                check.due("years(1) by " + seed, lane.years(1), due);
+            }
+        }
     }
 
     private static void yearsLots() {

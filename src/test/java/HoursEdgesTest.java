@@ -137,6 +137,7 @@ public final class HoursEdgesTest {
         check.due("all to the right", Check.made("AH009rH009rH009rH009r").rings(), 0);
         check.due("all to the left", Check.made("AH009lH009lH009lH009l").rings(), 0);
         check.due("away from one another", Check.made("AH009lH009r").rings(), 0);
+        check.due("the first and the last are no neighbours", Check.made("AH009lH009mH009mH009mH009mH009r").rings(), 0);
         // A third one that leans on a ring is not of it.
         check.due("one leans on a ring", Check.made("AH009rH009lH009l").rings(), 3);
         check.due("one leans on a ring", Check.made("AH009rH009rH009l").rings(), 6);
@@ -209,6 +210,7 @@ public final class HoursEdgesTest {
         check.words("OUTSIDE: n (1 to 4), row (0 or more, 3 n figures at most; HOUSES that there are, 0 or 1, 1 to 9), what.");
         for (int n : Check.outside(1, 4)) {
             check.refused("n " + n, States::busy, l -> l.orders(n, 11, 0), OUTSIDE);
+            check.refused("n " + n + ", no figures", States::busy, l -> l.orders(n, 0, 0), OUTSIDE);
         }
         check.refused("n 5, five moves", States::busy, l -> l.orders(5, 11011011011011L, 0), OUTSIDE);
         long[] rows = {

@@ -62,11 +62,12 @@ public final class LaneEdgesTest {
     }
 
     private static void writeFull() {
-        check.words("FULL: there are 64");
+        check.words("THE TEXT is letters (64 at most)");
         LeanLane lane = new LeanLane();
         for (int length = 1; length <= 64; length++) {
             check.due("write, letter " + length, lane.write(length % 256), length);
         }
+        check.words("FULL: there are 64");
         check.due("write, letter 65", lane.write('A'), FULL);
         check.due("count(0)", lane.count(0), 64);
         check.refused("write(0), 64 letters", States::fullText, l -> l.write(0), FULL);
@@ -174,7 +175,8 @@ public final class LaneEdgesTest {
     }
 
     private static void laneOfWhatIsTold() {
-        check.words("THE TEXT is THE LANE");
+        check.words("Hkwsd    a HOUSE of KIND k (0 LEASED, 1 HOLLOW, 2 HOLY, 3 UPSIDE DOWN, 4 UNBUILT), with w STONES in it (0 to 9), "
+                + "of STRENGTH s (0 to 9), that LEANS by its DEED d: l on the one ahead, r on the next one, m on the monk");
         for (int kind = 0; kind <= 4; kind++) {
             check.due("kind " + kind, Check.made("AH" + kind + "00m").house(0, 0), kind);
         }
@@ -185,6 +187,10 @@ public final class LaneEdgesTest {
         for (int d = 0; d <= 2; d++) {
             check.due("deed " + d, Check.made("AH000" + "lrm".charAt(d)).house(0, 3), d);
         }
+        for (String wrong : new String[] {"H/00m", "H500m", "H0/0m", "H0:0m", "H00/m", "H00:m", "H000k", "H000n", "H000q", "H000s"}) {
+            check.due("lane() of A" + wrong, Check.told("A" + wrong).lane(), STATE);
+        }
+        check.words("THE TEXT is THE LANE");
         LeanLane lane = Check.made(SIX);
         check.due("the text stays", lane.count(0), 31);
         check.due("and has no fault", lane.fault(), NONE);

@@ -362,6 +362,18 @@ public final class TermsEdgesTest {
         away.hour();
         check.due("those that lean elsewhere give nothing", away.house(1, LOAD), 1);
         check.due("but there", away.house(3, LOAD), 2);
+        LeanLane ends = Check.made("AH199lH209mH209mH209mH209mH199r");
+        check.due("what leans out of the row", ends.hour(), 2);
+        for (int house = 1; house <= 4; house++) {
+            check.due("gives to no house, " + house, ends.house(house, LOAD), 0);
+        }
+        LeanLane turn = Check.made("AH199lH209mH209mH209mH209mH219m");
+        turn.hour();
+        check.due("the last one is not ahead of the first", turn.house(5, LOAD), 1);
+        LeanLane back = Check.made("AH219mH209mH209mH209mH209mH199r");
+        back.hour();
+        check.due("the first one is not next to the last", back.house(0, LOAD), 1);
+        check.due("nor does the monk bear that", Check.made("AH199lH199r").count(6), 0);
         LeanLane far = Check.made("AH199rH139rH219m");
         far.hour();
         check.due("nothing comes past the next one", far.house(2, LOAD), 1);
