@@ -23,6 +23,16 @@ public final class FormTest {
         "int keep(int)", "int again(int)", "int count(int)",
     };
 
+    /** What the interface says ahead of its calls, with the calls, in the document's order. */
+    private static final String[][] HEADINGS = {
+        {"the lane", "write", "wipe", "fault", "lane", "house"},
+        {"acts", "hour", "bring", "take", "deed", "build", "undo"},
+        {"hours to come", "later", "standing", "falls", "rings", "orders", "piano", "sacks", "judge"},
+        {"seen", "see", "unsee", "night"},
+        {"shares, rests, chances", "share", "rests", "fails", "seed", "years"},
+        {"slots", "keep", "again", "count"},
+    };
+
     /** Rules 3, 4, 6, 10, 12 and 13: none of these may stand in the code. */
     private static final String[] FORBIDDEN = {
         "\\bthrow\\b", "\\bthrows\\b", "\\btry\\b", "\\bcatch\\b", "\\bsynchronized\\b", "\\bassert\\b", "->", "::",
@@ -35,7 +45,9 @@ public final class FormTest {
         methods();
         fields();
         nested();
-        source();
+        String file = Files.readString(Path.of("src/main/java/LeanLane.java"));
+        source(file);
+        headings(file);
         check.end();
     }
 
@@ -109,8 +121,7 @@ public final class FormTest {
         }
     }
 
-    private static void source() throws IOException {
-        String file = Files.readString(Path.of("src/main/java/LeanLane.java"));
+    private static void source(String file) {
         check.isTrue("signs up to 127", file.chars().allMatch(c -> c < 128));
         String code = file.replaceAll("(?s)/\\*.*?\\*/", " ").replaceAll("//[^\n]*", " ");
         for (String forbidden : FORBIDDEN) {
@@ -120,6 +131,22 @@ public final class FormTest {
         Matcher made = Pattern.compile("\\bnew (\\w+)").matcher(code);
         while (made.find()) {
             check.isTrue("made: " + made.group(1), made.group(1).matches("int|char|Text|Lane|Past|Sightings"));
+        }
+    }
+
+    /** Each heading stands ahead of its own calls and behind those of the heading ahead of it. */
+    private static void headings(String file) {
+        int at = 0;
+        for (String[] heading : HEADINGS) {
+            int place = file.indexOf("// ---- " + heading[0] + "\n");
+            check.isTrue("the heading " + heading[0] + " stands behind what is ahead of it", place > at);
+            at = Math.max(at, place);
+            for (int i = 1; i < heading.length; i++) {
+                Matcher call = Pattern.compile("public (int|long) " + heading[i] + "\\(").matcher(file);
+                boolean behind = call.find() && call.start() > at;
+                check.isTrue("the call " + heading[i] + " stands behind what is ahead of it", behind);
+                at = behind ? call.start() : at;
+            }
         }
     }
 }
